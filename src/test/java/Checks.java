@@ -1,0 +1,72 @@
+/** Counts the checks of one test program, and prints each that failed. */
+final class Checks {
+    interface Call {
+        long answer();
+    }
+
+    interface Deed {
+        void run();
+    }
+
+    private final String name;
+    private int passed = 0;
+    private int failed = 0;
+
+    Checks(String name) {
+        this.name = name;
+    }
+
+    void is(String what, Object got, Object want) {
+        if (want.equals(got)) {
+            passed++;
+        } else {
+            failed++;
+            System.out.println(name + ": " + what + " answered " + got + ", due is " + want);
+        }
+    }
+
+    void is(String what, long got, long want) {
+        is(what, (Object) got, (Object) want);
+    }
+
+    void is(String what, boolean got, boolean want) {
+        is(what, (Object) got, (Object) want);
+    }
+
+    /** The very class counts: the machine's own exceptions are often subclasses of those that are due. */
+    void isThrown(String what, Class<? extends RuntimeException> want, Deed deed) {
+        Object got = "nothing thrown";
+        try {
+            deed.run();
+        } catch (RuntimeException thrown) {
+            got = thrown.getClass();
+        }
+        is(what, got, want);
+    }
+
+    /** As isThrown, and all that can be asked of the object is the same afterwards. */
+    void isRefused(String what, Class<? extends RuntimeException> want, Postunion x, Deed deed) {
+        String before = Snapshot.of(x);
+        isThrown(what, want, deed);
+        is(what + " changes nothing", Snapshot.of(x), before);
+    }
+
+    void isNoSuch(String what, Postunion x, Deed deed) {
+        isRefused(what, IndexOutOfBoundsException.class, x, deed);
+    }
+
+    void isBadArgument(String what, Postunion x, Deed deed) {
+        isRefused(what, IllegalArgumentException.class, x, deed);
+    }
+
+    void isBadState(String what, Postunion x, Deed deed) {
+        isRefused(what, IllegalStateException.class, x, deed);
+    }
+
+    void end() {
+        System.out.println(name + ": " + passed + " passed, " + failed + " failed");
+        if (failed > 0) {
+            System.exit(1);
+        }
+    }
+}

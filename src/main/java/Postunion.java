@@ -100,17 +100,19 @@ public final class Postunion {
         if (oneEnd == otherEnd) {
             throw new IllegalArgumentException("a leg from a post to itself");
         }
-        if (routes.isFull()) {
+        int number = routes.addLeg(oneEnd, otherEnd, days);
+        if (number == NONE) {
             throw new IllegalStateException("there are 20 legs");
         }
-        return routes.addLeg(new Leg(oneEnd, otherEnd, days));
+        return number;
     }
 
     public boolean close(int leg, boolean isSo) throws IndexOutOfBoundsException {
-        if (!routes.hasLeg(leg)) {
+        Leg told = routes.legOf(leg);
+        if (told == null) {
             throw new IndexOutOfBoundsException("no such leg");
         }
-        return routes.setClosed(leg, isSo);
+        return routes.setClosed(told, isSo);
     }
 
     public int days(int from, int to) throws IndexOutOfBoundsException {
@@ -384,14 +386,14 @@ public final class Postunion {
     }
 
     private void sendOn(Thing thing) {
-        int number = routes.onwardLeg(thing.place, thing.target);
-        if (!routes.hasLeg(number)) {
+        Leg onward = routes.legOf(routes.onwardLeg(thing.place, thing.target));
+        if (onward == null) {
             return;
         }
         if (thing.place != thing.origin) {
             pay(thing.origin, thing.place, thing.place.chargeFor(thing.grams));
         }
-        thing.departOn(routes.legs[number]);
+        thing.departOn(onward);
     }
 
     // ---- what is paid
@@ -486,7 +488,7 @@ public final class Postunion {
         /** Above every sum of days that leads anywhere (7 legs of 100 days), and doubled still an int. */
         private static final int FAR = 1000000;
 
-        final Leg[] legs = new Leg[MOST_LEGS];
+        private final Leg[] legs = new Leg[MOST_LEGS];
         /** By both posts: the days of the shortest open leg between them. */
         private final int[] direct = new int[MOST_POSTS * MOST_POSTS];
         private final int[] least = new int[MOST_POSTS * MOST_POSTS];
@@ -497,31 +499,26 @@ public final class Postunion {
             reckon();
         }
 
-        boolean isFull() {
-            return legCount >= MOST_LEGS;
-        }
-
-        boolean hasLeg(int number) {
-            return number >= 0 && number < legCount;
-        }
-
-        /** To be called only if it is not full. */
-        int addLeg(Leg leg) {
-            if (legCount < MOST_LEGS) {
-                legs[legCount] = leg;
-                legCount++;
-                reckon();
+        /** Answers the leg's number; NONE, if there is no room for it. */
+        int addLeg(Post one, Post other, int length) {
+            if (legCount >= MOST_LEGS) {
+                return NONE;
             }
+            legs[legCount] = new Leg(one, other, length);
+            legCount++;
+            reckon();
             return legCount - 1;
         }
 
-        /** Answers whether it was closed before. To be called only for a leg that it has. */
-        boolean setClosed(int number, boolean isSo) {
-            if (!hasLeg(number)) {
-                return false;
-            }
-            boolean before = legs[number].isClosed;
-            legs[number].isClosed = isSo;
+        /** Null, if there is no such leg. */
+        Leg legOf(int number) {
+            return number >= 0 && number < legCount ? legs[number] : null;
+        }
+
+        /** Answers whether it was closed before. */
+        boolean setClosed(Leg leg, boolean isSo) {
+            boolean before = leg.isClosed;
+            leg.isClosed = isSo;
             if (before != isSo) {
                 reckon();
             }
@@ -697,7 +694,7 @@ public final class Postunion {
         }
 
         int latestHand() {
-            return handCount > 0 && handCount <= hands.length ? hands[handCount - 1] : NONE;
+            return handCount > 0 ? hands[handCount - 1] : NONE;
         }
 
         private void sign() {

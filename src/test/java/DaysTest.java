@@ -141,6 +141,11 @@ public final class DaysTest {
         x.go(1);
         x.rates(1, LETTER, 0, 0);
         checks.is("the tax is that of the day", x.go(1), 1);
+        x.rates(1, LETTER, 5, 0);
+        x.mail(LETTER, 0, 1, 20, 9, false);
+        x.refuse(4, true);
+        checks.is("a tax of 1 is refused", x.go(2), 0);
+        checks.is("it goes back", x.ofThing(4, 5), 1);
     }
 
     private static void promise16Dues() {

@@ -204,6 +204,8 @@ public final class PostsTest {
         checkGain(x, "not at the post itself", 9961, 0, 1);
         x.rates(1, LETTER, 0, 0);
         checkGain(x, "rates of now", 39, 1, 2);
+        x.rates(0, LETTER, 41, 0);
+        checkGain(x, "to the first post", 40, 1, 0);
         checks.isBadArgument("gain(-1)", x, () -> x.gain(-1));
         checks.isBadArgument("gain(3)", x, () -> x.gain(3));
         Postunion alone = withPosts(1);

@@ -7,6 +7,7 @@ public final class RoutesTest {
         promise8Leg();
         promise9Close();
         promise10And11Days();
+        promise10And11Star();
         promise12Next();
         checks.end();
     }
@@ -41,6 +42,8 @@ public final class RoutesTest {
             checks.is("leg()", x.leg(0, 1, 50), number);
         }
         checks.isBadState("leg 20", x, () -> x.leg(0, 1, 1));
+        checks.isNoSuch("close(20) of 20 legs", x, () -> x.close(20, true));
+        checks.is("close(19) of 20 legs", x.close(19, true), false);
         checks.isBadArgument("leg 20 of 0 days", x, () -> x.leg(0, 1, 0));
         checks.isBadArgument("leg 20 to the same", x, () -> x.leg(0, 0, 1));
         checks.isNoSuch("leg 20 to post 2", x, () -> x.leg(0, 2, 1));
@@ -93,6 +96,21 @@ public final class RoutesTest {
             checks.isNoSuch("daysAnew to " + wrong, x, () -> x.daysAnew(0, wrong));
             checks.isNoSuch("next from " + wrong, x, () -> x.next(wrong, 0));
             checks.isNoSuch("next to " + wrong, x, () -> x.next(0, wrong));
+        }
+    }
+
+    /** A star: every way leads through one post, also as that is the first or the last one. */
+    private static void promise10And11Star() {
+        for (int middle = 0; middle < 8; middle++) {
+            Postunion x = withPosts(8);
+            for (int post = 0; post < 8; post++) {
+                if (post != middle) {
+                    x.leg(post, middle, 1 + post);
+                }
+            }
+            int one = middle == 0 ? 7 : 0;
+            int other = middle == 6 ? 5 : 6;
+            checkRoute(x, one, other, one + other + 2, middle == 0 ? 6 : 0);
         }
     }
 

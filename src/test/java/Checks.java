@@ -1,9 +1,5 @@
 /** Counts the checks of one test program, and prints each that failed. */
 final class Checks {
-    interface Call {
-        long answer();
-    }
-
     interface Deed {
         void run();
     }
@@ -44,22 +40,37 @@ final class Checks {
         is(what, got, want);
     }
 
-    /** As isThrown, and all that can be asked of the object is the same afterwards. */
-    void isRefused(String what, Class<? extends RuntimeException> want, Postunion x, Deed deed) {
-        String before = Snapshot.of(x);
+    /** As isThrown, and all that can be told of the object is the same as without that call. */
+    void isRefused(String what, Class<? extends RuntimeException> want, Trial x, Deed deed) {
         isThrown(what, want, deed);
-        is(what + " changes nothing", Snapshot.of(x), before);
+        is(what + " changes nothing", x.changeByLastCall(), "");
     }
 
-    void isNoSuch(String what, Postunion x, Deed deed) {
+    /** The call answers, and all that can be told of the object is the same as without that call. */
+    void isAsked(String what, Trial x, Deed deed) {
+        isAnswered(what, deed);
+        is(what + " changes nothing", x.changeByLastCall(), "");
+    }
+
+    void isAnswered(String what, Deed deed) {
+        Object got = "an answer";
+        try {
+            deed.run();
+        } catch (RuntimeException thrown) {
+            got = thrown.getClass();
+        }
+        is(what, got, "an answer");
+    }
+
+    void isNoSuch(String what, Trial x, Deed deed) {
         isRefused(what, IndexOutOfBoundsException.class, x, deed);
     }
 
-    void isBadArgument(String what, Postunion x, Deed deed) {
+    void isBadArgument(String what, Trial x, Deed deed) {
         isRefused(what, IllegalArgumentException.class, x, deed);
     }
 
-    void isBadState(String what, Postunion x, Deed deed) {
+    void isBadState(String what, Trial x, Deed deed) {
         isRefused(what, IllegalStateException.class, x, deed);
     }
 

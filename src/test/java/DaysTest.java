@@ -19,8 +19,8 @@ public final class DaysTest {
     }
 
     /** Posts in a row, each with a leg of a day to the next one. */
-    private static Postunion row(int posts) {
-        Postunion x = new Postunion();
+    private static Trial row(int posts) {
+        Trial x = new Trial();
         x.post();
         for (int post = 1; post < posts; post++) {
             x.post();
@@ -29,20 +29,20 @@ public final class DaysTest {
         return x;
     }
 
-    private static void checkAccounts(Postunion x, String what, long... wants) {
+    private static void checkAccounts(Trial x, String what, long... wants) {
         for (int post = 0; post < wants.length; post++) {
             checks.is("account of " + post + ": " + what, x.account(post), wants[post]);
         }
     }
 
-    private static void checkTills(Postunion x, String what, long... wants) {
+    private static void checkTills(Trial x, String what, long... wants) {
         for (int post = 0; post < wants.length; post++) {
             checks.is("till of " + post + ": " + what, x.till(post), wants[post]);
         }
     }
 
     private static void promise16Range() {
-        Postunion x = row(2);
+        Trial x = row(2);
         x.mail(LETTER, 0, 1, 1, 0, true);
         for (int wrong : new int[] {0, -1, 201, Integer.MIN_VALUE, Integer.MAX_VALUE}) {
             checks.isBadArgument("go(" + wrong + ")", x, () -> x.go(wrong));
@@ -52,7 +52,7 @@ public final class DaysTest {
     }
 
     private static void promise16Counts() {
-        Postunion x = row(3);
+        Trial x = row(3);
         x.leg(0, 2, 100);
         x.close(1, true);
         x.mail(LETTER, 0, 2, 1, 0, false);
@@ -67,7 +67,7 @@ public final class DaysTest {
     }
 
     private static void promise16Charges() {
-        Postunion x = row(4);
+        Trial x = row(4);
         for (int post = 0; post < 4; post++) {
             x.charge(post, 1 + post);
         }
@@ -88,7 +88,7 @@ public final class DaysTest {
     }
 
     private static void promise16Refused() {
-        Postunion x = row(3);
+        Trial x = row(3);
         x.rates(0, LETTER, 10, 0);
         x.rates(2, LETTER, 20, 0);
         x.due(2, LETTER, 7);
@@ -118,7 +118,7 @@ public final class DaysTest {
     }
 
     private static void promise16NotBack() {
-        Postunion x = row(3);
+        Trial x = row(3);
         x.rates(0, LETTER, 10, 0);
         x.rates(1, LETTER, 20, 0);
         x.mail(LETTER, 0, 1, 20, 10, false);
@@ -149,7 +149,7 @@ public final class DaysTest {
     }
 
     private static void promise16Dues() {
-        Postunion x = row(3);
+        Trial x = row(3);
         x.due(1, LETTER, 6);
         x.due(1, CARD, 60);
         x.due(1, PRINT, 600);
@@ -172,7 +172,7 @@ public final class DaysTest {
     }
 
     private static void promise16Redirected() {
-        Postunion x = row(3);
+        Trial x = row(3);
         x.rates(0, LETTER, 10, 0);
         x.rates(1, LETTER, 10, 0);
         x.rates(2, LETTER, 30, 0);
@@ -190,7 +190,7 @@ public final class DaysTest {
     }
 
     private static void promise16Waiting() {
-        Postunion x = row(3);
+        Trial x = row(3);
         x.charge(1, 2);
         x.mail(LETTER, 0, 2, 1, 0, true);
         x.close(1, true);
@@ -215,7 +215,7 @@ public final class DaysTest {
     }
 
     private static void promise19Sample() {
-        Postunion x = row(2);
+        Trial x = row(2);
         x.due(1, LETTER, 5);
         checks.is("sample at first", x.sample(true), false);
         checks.is("sample again", x.sample(true), true);
@@ -233,7 +233,7 @@ public final class DaysTest {
     }
 
     private static void promise20Settle() {
-        Postunion x = row(3);
+        Trial x = row(3);
         x.sample(true);
         x.due(0, LETTER, 1);
         x.due(1, LETTER, 10);
@@ -258,7 +258,7 @@ public final class DaysTest {
     }
 
     private static void promise26Counted() {
-        Postunion x = row(2);
+        Trial x = row(2);
         x.sample(true);
         x.due(1, CARD, 10000);
         for (int i = 0; i < 40; i++) {

@@ -18,8 +18,8 @@ public final class PostsTest {
         checks.end();
     }
 
-    private static Postunion withPosts(int count) {
-        Postunion x = new Postunion();
+    private static Trial withPosts(int count) {
+        Trial x = new Trial();
         for (int i = 0; i < count; i++) {
             x.post();
         }
@@ -27,7 +27,7 @@ public final class PostsTest {
     }
 
     private static void promise1NewObject() {
-        Postunion x = new Postunion();
+        Trial x = new Trial();
         checks.isNoSuch("account(0) of a new object", x, () -> x.account(0));
         checks.isNoSuch("till(0) of a new object", x, () -> x.till(0));
         checks.isNoSuch("days(0, 0) of a new object", x, () -> x.days(0, 0));
@@ -37,14 +37,14 @@ public final class PostsTest {
         checks.is("settle(1) of a new object", x.settle(1), 0);
         checks.is("go(200) of a new object", x.go(200), 0);
         checks.is("sample of a new object", x.sample(true), false);
-        Postunion y = new Postunion();
+        Trial y = new Trial();
         checks.is("sample of another object", y.sample(false), false);
         x.post();
         checks.isNoSuch("the post of another object", y, () -> y.account(0));
     }
 
     private static void promise2Post() {
-        Postunion x = new Postunion();
+        Trial x = new Trial();
         for (int number = 0; number < 8; number++) {
             checks.is("post()", x.post(), number);
         }
@@ -55,7 +55,7 @@ public final class PostsTest {
     }
 
     private static void promise3Rates() {
-        Postunion x = withPosts(2);
+        Trial x = withPosts(2);
         for (int kind = LETTER; kind <= PRINT; kind++) {
             checks.is("a rate at first", x.rate(kind, 0, 20, false), 0);
         }
@@ -80,7 +80,7 @@ public final class PostsTest {
     }
 
     private static void promise4Due() {
-        Postunion x = withPosts(2);
+        Trial x = withPosts(2);
         checks.is("first due", x.due(0, LETTER, 10000), 0);
         checks.is("due of another kind", x.due(0, PRINT, 4), 0);
         checks.is("due of another post", x.due(1, LETTER, 5), 0);
@@ -97,7 +97,7 @@ public final class PostsTest {
     }
 
     private static void promise5Charge() {
-        Postunion x = withPosts(2);
+        Trial x = withPosts(2);
         checks.is("first charge", x.charge(1, 1000), 0);
         checks.isNoSuch("charge of post 2", x, () -> x.charge(2, 1));
         checks.isNoSuch("charge of post -1, of -1", x, () -> x.charge(-1, -1));
@@ -109,7 +109,7 @@ public final class PostsTest {
     }
 
     private static void promise6Coupon() {
-        Postunion x = withPosts(2);
+        Trial x = withPosts(2);
         checks.is("first price", x.coupon(1, 10000), 0);
         checks.isNoSuch("coupon of post 2", x, () -> x.coupon(2, 1));
         checks.isNoSuch("coupon of post -1, of -1", x, () -> x.coupon(-1, -1));
@@ -121,7 +121,7 @@ public final class PostsTest {
     }
 
     private static void promise7Strike() {
-        Postunion x = withPosts(2);
+        Trial x = withPosts(2);
         checks.is("strike at first", x.strike(0, false), false);
         checks.is("strike told", x.strike(0, true), false);
         checks.is("strike told again", x.strike(0, true), true);
@@ -142,7 +142,7 @@ public final class PostsTest {
     }
 
     private static void promise21Rate() {
-        Postunion x = withPosts(1);
+        Trial x = withPosts(1);
         x.rates(0, LETTER, 100, 7);
         x.rates(0, CARD, 60, 9);
         checks.is("1 gram", x.rate(LETTER, 0, 1, false), 100);
@@ -167,7 +167,7 @@ public final class PostsTest {
     }
 
     private static void promise24And25AccountAndTill() {
-        Postunion x = withPosts(3);
+        Trial x = withPosts(3);
         x.leg(0, 1, 1);
         x.leg(1, 2, 1);
         x.charge(1, 9);
@@ -186,7 +186,7 @@ public final class PostsTest {
     }
 
     private static void promise27Gain() {
-        Postunion x = withPosts(4);
+        Trial x = withPosts(4);
         x.rates(1, LETTER, 40, 99);
         x.rates(2, LETTER, 40, 0);
         x.rates(3, CARD, 9000, 0);
@@ -208,14 +208,14 @@ public final class PostsTest {
         checkGain(x, "to the first post", 40, 1, 0);
         checks.isBadArgument("gain(-1)", x, () -> x.gain(-1));
         checks.isBadArgument("gain(3)", x, () -> x.gain(3));
-        Postunion alone = withPosts(1);
+        Trial alone = withPosts(1);
         alone.coupon(0, 1);
         alone.rates(0, LETTER, 100, 0);
         checkGain(alone, "a post alone", NONE, NONE, NONE);
         checks.isBadArgument("gain(3) where there is none", alone, () -> alone.gain(3));
     }
 
-    private static void checkGain(Postunion x, String what, int gain, int one, int other) {
+    private static void checkGain(Trial x, String what, int gain, int one, int other) {
         checks.is("gain(0): " + what, x.gain(0), gain);
         checks.is("gain(1): " + what, x.gain(1), one);
         checks.is("gain(2): " + what, x.gain(2), other);

@@ -6,11 +6,16 @@ import java.util.HashMap;
 import java.util.List;
 import java.util.Map;
 import java.util.Random;
+import java.util.function.Supplier;
 
-/** Runs of 512 calls, the same ones each time, of which each answer must be that of the Model. */
+/**
+ * Runs of 512 calls, the same ones each time, of which each answer must be that of the Model; and all that
+ * can be asked after the first calls of a run, of as many equal objects as are needed for that.
+ */
 public final class RandomRunsTest {
     private static final int RUNS = 400;
     private static final int CALLS = 512;
+    private static final int CALLS_BEFORE_ALL_IS_ASKED = 312;
     private static final int[] ODD = {-1, 0, 8, 20, 40, 201, 2001, 10001, 100001,
         Integer.MIN_VALUE, Integer.MIN_VALUE + 1, Integer.MAX_VALUE, Integer.MAX_VALUE - 19};
     /** A method, how often it is called, and of which sort each argument is. */
@@ -49,6 +54,7 @@ public final class RandomRunsTest {
         int posts = 2 + random.nextInt(7);
         int legs = random.nextInt(16);
         String wrong = "";
+        List<Made> made = new ArrayList<>();
         for (int i = 0; i < CALLS && wrong.isEmpty(); i++) {
             String call = i < posts ? "post 1" : i < posts + legs ? "leg 1 post post days" : drawn.get(random.nextInt(drawn.size()));
             String[] parts = call.split(" ");
@@ -56,6 +62,7 @@ public final class RandomRunsTest {
             for (int a = 0; a < arguments.length; a++) {
                 arguments[a] = draw(parts[a + 2], random, posts);
             }
+            made.add(new Made(parts[0], arguments));
             Object got = answer(x, parts[0], arguments);
             Object want = answer(model, parts[0], arguments);
             String kind = want instanceof String ? " " + want : " answers";
@@ -66,7 +73,41 @@ public final class RandomRunsTest {
         }
         checks.is("run " + run, wrong, "");
         if (wrong.isEmpty()) {
-            checks.is("all that can be asked after run " + run, allOf(x, posts), allOf(model, posts));
+            List<Made> before = made.subList(0, CALLS_BEFORE_ALL_IS_ASKED);
+            String got = allOf(new Asker(Postunion::new, before, CALLS), posts);
+            String want = allOf(new Asker(Model::new, before, Integer.MAX_VALUE), posts);
+            checks.is("all that can be asked in run " + run, got, want);
+        }
+    }
+
+    private record Made(String name, Object[] arguments) {
+    }
+
+    /** Asks an object with these calls; as it has served for so many calls as it may, an equal one. */
+    private static final class Asker {
+        private final Supplier<Object> maker;
+        private final List<Made> before;
+        private final int most;
+        private Object of = null;
+        private int calls;
+
+        Asker(Supplier<Object> maker, List<Made> before, int most) {
+            this.maker = maker;
+            this.before = before;
+            this.most = most;
+            this.calls = most;
+        }
+
+        Object ask(String name, Object... arguments) {
+            if (calls == most) {
+                of = maker.get();
+                for (Made call : before) {
+                    answer(of, call.name, call.arguments);
+                }
+                calls = before.size();
+            }
+            calls++;
+            return answer(of, name, arguments);
         }
     }
 
@@ -117,22 +158,22 @@ public final class RandomRunsTest {
         throw new IllegalArgumentException(name);
     }
 
-    private static String allOf(Object x, int posts) {
+    private static String allOf(Asker x, int posts) {
         StringBuilder told = new StringBuilder();
         for (int one = 0; one < posts; one++) {
-            told.append("\npost ").append(one).append(' ').append(answer(x, "account", one)).append(' ').append(answer(x, "till", one));
+            told.append("\npost ").append(one).append(' ').append(x.ask("account", one)).append(' ').append(x.ask("till", one));
             for (int other = 0; other < posts; other++) {
-                told.append(' ').append(answer(x, "counted", one, other)).append(' ').append(answer(x, "next", one, other));
-                told.append(' ').append(answer(x, "days", one, other)).append(' ').append(answer(x, "daysAnew", one, other));
+                told.append(' ').append(x.ask("counted", one, other)).append(' ').append(x.ask("next", one, other));
+                told.append(' ').append(x.ask("days", one, other)).append(' ').append(x.ask("daysAnew", one, other));
             }
         }
         for (int thing = 0; thing < 40; thing++) {
             told.append("\nthing ").append(thing);
             for (int what = 0; what < 7; what++) {
-                told.append(' ').append(answer(x, "ofThing", thing, what));
+                told.append(' ').append(x.ask("ofThing", thing, what));
             }
             for (int place = 0; place < 12; place++) {
-                told.append(' ').append(answer(x, "hand", thing, place));
+                told.append(' ').append(x.ask("hand", thing, place));
             }
         }
         return told.toString();

@@ -18,8 +18,8 @@ public final class ThingsTest {
     }
 
     /** Posts in a row, each with a leg of so many days to the next one. */
-    private static Postunion row(int posts, int days) {
-        Postunion x = new Postunion();
+    private static Trial row(int posts, int days) {
+        Trial x = new Trial();
         x.post();
         for (int post = 1; post < posts; post++) {
             x.post();
@@ -29,7 +29,7 @@ public final class ThingsTest {
     }
 
     private static void promise13Mail() {
-        Postunion x = row(2, 1);
+        Trial x = row(2, 1);
         x.rates(0, LETTER, 100, 10);
         checks.isNoSuch("mail from post 2, all wrong", x, () -> x.mail(3, 2, 2, 0, -1, true));
         checks.isNoSuch("mail from post -1", x, () -> x.mail(LETTER, -1, 0, 1, 0, true));
@@ -69,7 +69,7 @@ public final class ThingsTest {
     }
 
     private static void promise14Redirect() {
-        Postunion x = row(3, 2);
+        Trial x = row(3, 2);
         x.mail(LETTER, 0, 1, 1, 0, false);
         checks.isNoSuch("redirect thing 1", x, () -> x.redirect(1, 2));
         checks.isNoSuch("redirect thing -1", x, () -> x.redirect(-1, 2));
@@ -98,7 +98,7 @@ public final class ThingsTest {
     }
 
     private static void redirectBack() {
-        Postunion x = row(3, 1);
+        Trial x = row(3, 1);
         x.mail(LETTER, 0, 1, 1, 0, true);
         x.rates(1, LETTER, 1, 0);
         x.refuse(0, true);
@@ -115,7 +115,7 @@ public final class ThingsTest {
     }
 
     private static void promise15Refuse() {
-        Postunion x = row(3, 1);
+        Trial x = row(3, 1);
         x.mail(LETTER, 0, 2, 1, 0, true);
         checks.isNoSuch("refuse thing 1", x, () -> x.refuse(1, true));
         checks.isNoSuch("refuse thing -1", x, () -> x.refuse(-1, true));
@@ -143,7 +143,7 @@ public final class ThingsTest {
     }
 
     private static void promise17Lose() {
-        Postunion x = row(3, 2);
+        Trial x = row(3, 2);
         x.mail(LETTER, 0, 2, 1, 0, true);
         x.mail(LETTER, 0, 2, 1, 0, false);
         x.mail(LETTER, 1, 2, 1, 0, true);
@@ -172,7 +172,7 @@ public final class ThingsTest {
     }
 
     private static void promise18Claim() {
-        Postunion x = row(4, 1);
+        Trial x = row(4, 1);
         x.mail(LETTER, 0, 3, 1, 0, true);
         checks.isNoSuch("claim for thing 1", x, () -> x.claim(1));
         checks.isNoSuch("claim for thing -1", x, () -> x.claim(-1));
@@ -207,11 +207,11 @@ public final class ThingsTest {
         checkMoney(x, -15950, 10000, -4000, -6000, 0);
     }
 
-    private static void checkClaim(Postunion x, String what, int thing, int want) {
+    private static void checkClaim(Trial x, String what, int thing, int want) {
         checks.is("claim for what " + what, x.claim(thing), want);
     }
 
-    private static void checkMoney(Postunion x, long till, long... accounts) {
+    private static void checkMoney(Trial x, long till, long... accounts) {
         checks.is("till of the origin", x.till(0), till);
         for (int post = 0; post < accounts.length; post++) {
             checks.is("account of " + post, x.account(post), accounts[post]);
@@ -219,14 +219,14 @@ public final class ThingsTest {
         checks.is("till of another", x.till(1), 0);
     }
 
-    private static void checkThing(Postunion x, int thing, long... wants) {
+    private static void checkThing(Trial x, int thing, long... wants) {
         for (int what = 0; what < wants.length; what++) {
             checks.is("ofThing(" + thing + ", " + what + ")", x.ofThing(thing, what), wants[what]);
         }
     }
 
     private static void promise22OfThing() {
-        Postunion x = row(3, 2);
+        Trial x = row(3, 2);
         x.rates(2, LETTER, 30, 0);
         x.mail(LETTER, 0, 2, 1, 0, true);
         checkThing(x, 0, Postunion.WAITS, 0, 0, 2, 100, 0, 1);
@@ -252,7 +252,7 @@ public final class ThingsTest {
     }
 
     private static void promise22Tax() {
-        Postunion x = row(3, 1);
+        Trial x = row(3, 1);
         x.rates(0, LETTER, 7, 0);
         x.rates(0, PRINT, 5, 0);
         x.rates(1, LETTER, 10, 0);
@@ -279,7 +279,7 @@ public final class ThingsTest {
     }
 
     private static void promise23Hand() {
-        Postunion x = row(3, 1);
+        Trial x = row(3, 1);
         x.mail(LETTER, 0, 2, 1, 0, true);
         x.mail(LETTER, 0, 2, 1, 0, false);
         checks.is("the first hand", x.hand(0, 0), 0);
@@ -297,7 +297,7 @@ public final class ThingsTest {
 
     /** A thing is sent to and fro between two posts, as it is redirected ahead of each arrival. */
     private static void promise23ManyHands() {
-        Postunion x = row(3, 1);
+        Trial x = row(3, 1);
         x.mail(LETTER, 0, 2, 1, 0, true);
         x.go(1);
         for (int arrival = 1; arrival <= 200; arrival++) {

@@ -18,17 +18,6 @@ public final class DaysTest {
         checks.end();
     }
 
-    /** Posts in a row, each with a leg of a day to the next one. */
-    private static Trial row(int posts) {
-        Trial x = new Trial();
-        x.post();
-        for (int post = 1; post < posts; post++) {
-            x.post();
-            x.leg(post - 1, post, 1);
-        }
-        return x;
-    }
-
     private static void checkAccounts(Trial x, String what, long... wants) {
         for (int post = 0; post < wants.length; post++) {
             checks.is("account of " + post + ": " + what, x.account(post), wants[post]);
@@ -42,7 +31,7 @@ public final class DaysTest {
     }
 
     private static void promise16Range() {
-        Trial x = row(2);
+        Trial x = Worlds.row(2, 1);
         x.mail(LETTER, 0, 1, 1, 0, true);
         for (int wrong : new int[] {0, -1, 201, Integer.MIN_VALUE, Integer.MAX_VALUE}) {
             checks.isBadArgument("go(" + wrong + ")", x, () -> x.go(wrong));
@@ -52,7 +41,7 @@ public final class DaysTest {
     }
 
     private static void promise16Counts() {
-        Trial x = row(3);
+        Trial x = Worlds.row(3, 1);
         x.leg(0, 2, 100);
         x.close(1, true);
         x.mail(LETTER, 0, 2, 1, 0, false);
@@ -67,7 +56,7 @@ public final class DaysTest {
     }
 
     private static void promise16Charges() {
-        Trial x = row(4);
+        Trial x = Worlds.row(4, 1);
         for (int post = 0; post < 4; post++) {
             x.charge(post, 1 + post);
         }
@@ -88,7 +77,7 @@ public final class DaysTest {
     }
 
     private static void promise16Refused() {
-        Trial x = row(3);
+        Trial x = Worlds.row(3, 1);
         x.rates(0, LETTER, 10, 0);
         x.rates(2, LETTER, 20, 0);
         x.due(2, LETTER, 7);
@@ -118,7 +107,7 @@ public final class DaysTest {
     }
 
     private static void promise16NotBack() {
-        Trial x = row(3);
+        Trial x = Worlds.row(3, 1);
         x.rates(0, LETTER, 10, 0);
         x.rates(1, LETTER, 20, 0);
         x.mail(LETTER, 0, 1, 20, 10, false);
@@ -149,7 +138,7 @@ public final class DaysTest {
     }
 
     private static void promise16Dues() {
-        Trial x = row(3);
+        Trial x = Worlds.row(3, 1);
         x.due(1, LETTER, 6);
         x.due(1, CARD, 60);
         x.due(1, PRINT, 600);
@@ -172,7 +161,7 @@ public final class DaysTest {
     }
 
     private static void promise16Redirected() {
-        Trial x = row(3);
+        Trial x = Worlds.row(3, 1);
         x.rates(0, LETTER, 10, 0);
         x.rates(1, LETTER, 10, 0);
         x.rates(2, LETTER, 30, 0);
@@ -190,7 +179,7 @@ public final class DaysTest {
     }
 
     private static void promise16Waiting() {
-        Trial x = row(3);
+        Trial x = Worlds.row(3, 1);
         x.charge(1, 2);
         x.mail(LETTER, 0, 2, 1, 0, true);
         x.close(1, true);
@@ -215,7 +204,7 @@ public final class DaysTest {
     }
 
     private static void promise19Sample() {
-        Trial x = row(2);
+        Trial x = Worlds.row(2, 1);
         x.due(1, LETTER, 5);
         checks.is("sample at first", x.sample(true), false);
         checks.is("sample again", x.sample(true), true);
@@ -233,7 +222,7 @@ public final class DaysTest {
     }
 
     private static void promise20Settle() {
-        Trial x = row(3);
+        Trial x = Worlds.row(3, 1);
         x.sample(true);
         x.due(0, LETTER, 1);
         x.due(1, LETTER, 10);
@@ -258,7 +247,7 @@ public final class DaysTest {
     }
 
     private static void promise26Counted() {
-        Trial x = row(2);
+        Trial x = Worlds.row(2, 1);
         x.sample(true);
         x.due(1, CARD, 10000);
         for (int i = 0; i < 40; i++) {

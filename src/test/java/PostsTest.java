@@ -18,14 +18,6 @@ public final class PostsTest {
         checks.end();
     }
 
-    private static Trial withPosts(int count) {
-        Trial x = new Trial();
-        for (int i = 0; i < count; i++) {
-            x.post();
-        }
-        return x;
-    }
-
     private static void promise1NewObject() {
         Trial x = new Trial();
         checks.isNoSuch("account(0) of a new object", x, () -> x.account(0));
@@ -55,7 +47,7 @@ public final class PostsTest {
     }
 
     private static void promise3Rates() {
-        Trial x = withPosts(2);
+        Trial x = Worlds.withPosts(2);
         for (int kind = LETTER; kind <= PRINT; kind++) {
             checks.is("a rate at first", x.rate(kind, 0, 20, false), 0);
         }
@@ -80,7 +72,7 @@ public final class PostsTest {
     }
 
     private static void promise4Due() {
-        Trial x = withPosts(2);
+        Trial x = Worlds.withPosts(2);
         checks.is("first due", x.due(0, LETTER, 10000), 0);
         checks.is("due of another kind", x.due(0, PRINT, 4), 0);
         checks.is("due of another post", x.due(1, LETTER, 5), 0);
@@ -97,7 +89,7 @@ public final class PostsTest {
     }
 
     private static void promise5Charge() {
-        Trial x = withPosts(2);
+        Trial x = Worlds.withPosts(2);
         checks.is("first charge", x.charge(1, 1000), 0);
         checks.isNoSuch("charge of post 2", x, () -> x.charge(2, 1));
         checks.isNoSuch("charge of post -1, of -1", x, () -> x.charge(-1, -1));
@@ -109,7 +101,7 @@ public final class PostsTest {
     }
 
     private static void promise6Coupon() {
-        Trial x = withPosts(2);
+        Trial x = Worlds.withPosts(2);
         checks.is("first price", x.coupon(1, 10000), 0);
         checks.isNoSuch("coupon of post 2", x, () -> x.coupon(2, 1));
         checks.isNoSuch("coupon of post -1, of -1", x, () -> x.coupon(-1, -1));
@@ -121,7 +113,7 @@ public final class PostsTest {
     }
 
     private static void promise7Strike() {
-        Trial x = withPosts(2);
+        Trial x = Worlds.withPosts(2);
         checks.is("strike at first", x.strike(0, false), false);
         checks.is("strike told", x.strike(0, true), false);
         checks.is("strike told again", x.strike(0, true), true);
@@ -142,7 +134,7 @@ public final class PostsTest {
     }
 
     private static void promise21Rate() {
-        Trial x = withPosts(1);
+        Trial x = Worlds.withPosts(1);
         x.rates(0, LETTER, 100, 7);
         x.rates(0, CARD, 60, 9);
         checks.is("1 gram", x.rate(LETTER, 0, 1, false), 100);
@@ -167,7 +159,7 @@ public final class PostsTest {
     }
 
     private static void promise24And25AccountAndTill() {
-        Trial x = withPosts(3);
+        Trial x = Worlds.withPosts(3);
         x.leg(0, 1, 1);
         x.leg(1, 2, 1);
         x.charge(1, 9);
@@ -186,7 +178,7 @@ public final class PostsTest {
     }
 
     private static void promise27Gain() {
-        Trial x = withPosts(4);
+        Trial x = Worlds.withPosts(4);
         x.rates(1, LETTER, 40, 99);
         x.rates(2, LETTER, 40, 0);
         x.rates(3, CARD, 9000, 0);
@@ -208,7 +200,7 @@ public final class PostsTest {
         checkGain(x, "to the first post", 40, 1, 0);
         checks.isBadArgument("gain(-1)", x, () -> x.gain(-1));
         checks.isBadArgument("gain(3)", x, () -> x.gain(3));
-        Trial alone = withPosts(1);
+        Trial alone = Worlds.withPosts(1);
         alone.coupon(0, 1);
         alone.rates(0, LETTER, 100, 0);
         checkGain(alone, "a post alone", NONE, NONE, NONE);

@@ -12,14 +12,6 @@ public final class RoutesTest {
         checks.end();
     }
 
-    private static Trial withPosts(int count) {
-        Trial x = new Trial();
-        for (int i = 0; i < count; i++) {
-            x.post();
-        }
-        return x;
-    }
-
     private static void checkRoute(Trial x, int from, int to, int days, int next) {
         String both = "(" + from + ", " + to + ")";
         checks.is("days" + both, x.days(from, to), days);
@@ -28,7 +20,7 @@ public final class RoutesTest {
     }
 
     private static void promise8Leg() {
-        Trial x = withPosts(2);
+        Trial x = Worlds.withPosts(2);
         checks.isNoSuch("leg to post 2, all wrong", x, () -> x.leg(2, 2, 0));
         checks.isNoSuch("leg from post -1", x, () -> x.leg(-1, 0, 1));
         checks.isNoSuch("leg to post 2", x, () -> x.leg(0, 2, 1));
@@ -50,7 +42,7 @@ public final class RoutesTest {
     }
 
     private static void promise9Close() {
-        Trial x = withPosts(3);
+        Trial x = Worlds.withPosts(3);
         x.leg(0, 1, 1);
         x.leg(1, 2, 1);
         checks.is("closed at first", x.close(1, false), false);
@@ -72,7 +64,7 @@ public final class RoutesTest {
     }
 
     private static void promise10And11Days() {
-        Trial x = withPosts(8);
+        Trial x = Worlds.withPosts(8);
         checkRoute(x, 7, 7, 0, NONE);
         checkRoute(x, 0, 7, NONE, NONE);
         for (int post = 0; post < 7; post++) {
@@ -102,7 +94,7 @@ public final class RoutesTest {
     /** A star: every way leads through one post, also as that is the first or the last one. */
     private static void promise10And11Star() {
         for (int middle = 0; middle < 8; middle++) {
-            Trial x = withPosts(8);
+            Trial x = Worlds.withPosts(8);
             for (int post = 0; post < 8; post++) {
                 if (post != middle) {
                     x.leg(post, middle, 1 + post);
@@ -115,7 +107,7 @@ public final class RoutesTest {
     }
 
     private static void promise12Next() {
-        Trial x = withPosts(5);
+        Trial x = Worlds.withPosts(5);
         x.leg(0, 3, 1);
         x.leg(3, 4, 3);
         x.leg(0, 2, 2);

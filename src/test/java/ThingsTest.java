@@ -17,19 +17,8 @@ public final class ThingsTest {
         checks.end();
     }
 
-    /** Posts in a row, each with a leg of so many days to the next one. */
-    private static Trial row(int posts, int days) {
-        Trial x = new Trial();
-        x.post();
-        for (int post = 1; post < posts; post++) {
-            x.post();
-            x.leg(post - 1, post, days);
-        }
-        return x;
-    }
-
     private static void promise13Mail() {
-        Trial x = row(2, 1);
+        Trial x = Worlds.row(2, 1);
         x.rates(0, LETTER, 100, 10);
         checks.isNoSuch("mail from post 2, all wrong", x, () -> x.mail(3, 2, 2, 0, -1, true));
         checks.isNoSuch("mail from post -1", x, () -> x.mail(LETTER, -1, 0, 1, 0, true));
@@ -69,7 +58,7 @@ public final class ThingsTest {
     }
 
     private static void promise14Redirect() {
-        Trial x = row(3, 2);
+        Trial x = Worlds.row(3, 2);
         x.mail(LETTER, 0, 1, 1, 0, false);
         checks.isNoSuch("redirect thing 1", x, () -> x.redirect(1, 2));
         checks.isNoSuch("redirect thing -1", x, () -> x.redirect(-1, 2));
@@ -98,7 +87,7 @@ public final class ThingsTest {
     }
 
     private static void redirectBack() {
-        Trial x = row(3, 1);
+        Trial x = Worlds.row(3, 1);
         x.mail(LETTER, 0, 1, 1, 0, true);
         x.rates(1, LETTER, 1, 0);
         x.refuse(0, true);
@@ -115,7 +104,7 @@ public final class ThingsTest {
     }
 
     private static void promise15Refuse() {
-        Trial x = row(3, 1);
+        Trial x = Worlds.row(3, 1);
         x.mail(LETTER, 0, 2, 1, 0, true);
         checks.isNoSuch("refuse thing 1", x, () -> x.refuse(1, true));
         checks.isNoSuch("refuse thing -1", x, () -> x.refuse(-1, true));
@@ -143,7 +132,7 @@ public final class ThingsTest {
     }
 
     private static void promise17Lose() {
-        Trial x = row(3, 2);
+        Trial x = Worlds.row(3, 2);
         x.mail(LETTER, 0, 2, 1, 0, true);
         x.mail(LETTER, 0, 2, 1, 0, false);
         x.mail(LETTER, 1, 2, 1, 0, true);
@@ -172,7 +161,7 @@ public final class ThingsTest {
     }
 
     private static void promise18Claim() {
-        Trial x = row(4, 1);
+        Trial x = Worlds.row(4, 1);
         x.mail(LETTER, 0, 3, 1, 0, true);
         checks.isNoSuch("claim for thing 1", x, () -> x.claim(1));
         checks.isNoSuch("claim for thing -1", x, () -> x.claim(-1));
@@ -226,7 +215,7 @@ public final class ThingsTest {
     }
 
     private static void promise22OfThing() {
-        Trial x = row(3, 2);
+        Trial x = Worlds.row(3, 2);
         x.rates(2, LETTER, 30, 0);
         x.mail(LETTER, 0, 2, 1, 0, true);
         checkThing(x, 0, Postunion.WAITS, 0, 0, 2, 100, 0, 1);
@@ -252,7 +241,7 @@ public final class ThingsTest {
     }
 
     private static void promise22Tax() {
-        Trial x = row(3, 1);
+        Trial x = Worlds.row(3, 1);
         x.rates(0, LETTER, 7, 0);
         x.rates(0, PRINT, 5, 0);
         x.rates(1, LETTER, 10, 0);
@@ -279,7 +268,7 @@ public final class ThingsTest {
     }
 
     private static void promise23Hand() {
-        Trial x = row(3, 1);
+        Trial x = Worlds.row(3, 1);
         x.mail(LETTER, 0, 2, 1, 0, true);
         x.mail(LETTER, 0, 2, 1, 0, false);
         checks.is("the first hand", x.hand(0, 0), 0);
@@ -297,7 +286,7 @@ public final class ThingsTest {
 
     /** A thing is sent to and fro between two posts, as it is redirected ahead of each arrival. */
     private static void promise23ManyHands() {
-        Trial x = row(3, 1);
+        Trial x = Worlds.row(3, 1);
         x.mail(LETTER, 0, 2, 1, 0, true);
         x.go(1);
         for (int arrival = 1; arrival <= 200; arrival++) {
